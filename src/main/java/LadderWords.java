@@ -226,7 +226,7 @@ public final class LadderWords {
         private boolean isOneMore(int shorter, int longer) {
             int skipped = 0;
             for (int i = 0; i < lengthOf(shorter); i++) {
-                if (skipped == 0 && letterOf(shorter, i) != letterOf(longer, i)) {
+                if (letterOf(shorter, i) != letterOf(longer, i)) {
                     skipped = 1;
                 }
                 if (letterOf(shorter, i) != letterOf(longer, i + skipped)) {
@@ -480,7 +480,6 @@ public final class LadderWords {
 
         private void openAll(int n) {
             long all = 0;
-            clearHaving(n);
             for (int word = 0; word < words.count(); word++) {
                 if (words.lengthOf(word) == n) {
                     all |= 1L << word;
@@ -492,14 +491,7 @@ public final class LadderWords {
             }
         }
 
-        private void clearHaving(int n) {
-            for (int i = 0; i < n; i++) {
-                for (int letter = 0; letter < ALPHABET; letter++) {
-                    having[i][letter] = 0;
-                }
-            }
-        }
-
+        /** No word ever goes, so what was noted for an earlier square stays true. */
         private void noteLetters(int word, int n) {
             for (int i = 0; i < n; i++) {
                 int letter = words.letterOf(word, i) - FIRST_LETTER;
